@@ -119,26 +119,30 @@ public final class RefusedCallsTest {
 
     /** The calls that a state forbids which can be asked for; the others stand in refusedByHarmAndPlace. */
     private static void badStates(UnionList list) {
-        for (int request = 0; request < 40 && isThere(list::state, request); request++) {
-            int number = request;
-            if (list.state(request) != UnionList.LOAN) {
-                Check.badState("due", () -> list.due(number));
-                Check.badState("renew", () -> list.renew(number));
-                Check.badState("recall", () -> list.recall(number));
-                Check.badState("sendBack", () -> list.sendBack(number));
-            }
-        }
-        for (int copy = 0; copy < 20 && isThere(list::inHandsOf, copy); copy++) {
-            int number = copy;
-            if (list.isFree(copy)) {
-                Check.badState("mend", () -> list.mend(number));
-            }
-        }
         if (isThere(list::inHandsOf, 19)) {
             Check.badState("addCopy", () -> list.addCopy(0, 0));
         }
         if (isThere(list::state, 39)) {
             Check.badState("request", () -> list.request(0, 0));
+        }
+        // Of many, every seventh, for the calls that the sequels need must be left of the 512.
+        for (int request = 0; request < 40 && isThere(list::state, request); request += 7) {
+            noLoanCalls(list, request);
+        }
+        for (int copy = 0; copy < 20 && isThere(list::inHandsOf, copy); copy += 7) {
+            int number = copy;
+            if (list.isFree(copy)) {
+                Check.badState("mend", () -> list.mend(number));
+            }
+        }
+    }
+
+    private static void noLoanCalls(UnionList list, int request) {
+        if (list.state(request) != UnionList.LOAN) {
+            Check.badState("due", () -> list.due(request));
+            Check.badState("renew", () -> list.renew(request));
+            Check.badState("recall", () -> list.recall(request));
+            Check.badState("sendBack", () -> list.sendBack(request));
         }
     }
 
